@@ -1191,6 +1191,8 @@ public final class LikenessPound {
         private static final int MOST_FAINT = 60;
 
         int lines;
+        private int first;
+        private int second;
         private boolean roomTold;
         private boolean faintTold;
 
@@ -1301,38 +1303,24 @@ public final class LikenessPound {
             return true;
         }
 
-        private static boolean readKin(Tape tape, Colony colony) {
-            tape.advance();
-            int m = colony.manAt(tape);
-            if (m == NONE) {
+        private boolean readKin(Tape tape, Colony colony) {
+            if (!readUnlikeMen(tape, colony)) {
                 return false;
             }
-            tape.advance();
-            int k = colony.manAt(tape);
-            if (k == NONE) {
-                return false;
-            }
-            if (k == m || colony.areKin(m, k)) {
+            if (colony.areKin(first, second)) {
                 return tape.refuse(WRONG_NAME);
             }
             tape.advance();
-            colony.kin[m] |= 1 << k;
-            colony.kin[k] |= 1 << m;
+            colony.kin[first] |= 1 << second;
+            colony.kin[second] |= 1 << first;
             return true;
         }
 
-        private static boolean readOwes(Tape tape, Colony colony, Life life) {
-            tape.advance();
-            int m = colony.manAt(tape);
-            if (m == NONE) {
+        private boolean readOwes(Tape tape, Colony colony, Life life) {
+            if (!readUnlikeMen(tape, colony)) {
                 return false;
             }
-            tape.advance();
-            int k = colony.manAt(tape);
-            if (k == NONE) {
-                return false;
-            }
-            if (k == m || life.owed[m * MEN + k] != 0) {
+            if (life.owed[first * MEN + second] != 0) {
                 return tape.refuse(WRONG_NAME);
             }
             tape.advance();
@@ -1340,8 +1328,23 @@ public final class LikenessPound {
             if (owed == NONE) {
                 return false;
             }
-            life.owed[m * MEN + k] = owed;
+            life.owed[first * MEN + second] = owed;
             return true;
+        }
+
+        /** The second one's token stays, as they may have been told together: that fault is at it. */
+        private boolean readUnlikeMen(Tape tape, Colony colony) {
+            tape.advance();
+            first = colony.manAt(tape);
+            if (first == NONE) {
+                return false;
+            }
+            tape.advance();
+            second = colony.manAt(tape);
+            if (second == NONE) {
+                return false;
+            }
+            return first != second || tape.refuse(WRONG_NAME);
         }
 
         private boolean readRoom(Tape tape, Colony colony) {
