@@ -89,8 +89,9 @@ public final class LikenessPound {
     private World draft = new World();
     private int latestFault;
     private int latestHelp = NONE;
-    private boolean mayTold;
-    private boolean careerTold;
+    /** How many deeds the colony had of which the row was told, whatever colony is read afterwards; 0 ahead of any. */
+    private int mayDeeds;
+    private int careerDeeds;
 
     public LikenessPound() {
         for (int k = 0; k < IMAGES; k++) {
@@ -323,13 +324,13 @@ public final class LikenessPound {
             clearRow(mayRow);
             pickSide(white, false);
             pickSide(dark, true);
-            mayTold = true;
+            mayDeeds = world.colony.deeds;
         }
         return rows;
     }
 
     public int mayBe(int d) {
-        return isDeed(d) && mayTold ? mayRow[d] : NONE;
+        return d >= 0 && d < mayDeeds ? mayRow[d] : NONE;
     }
 
     public int career(int m, int k) {
@@ -348,12 +349,12 @@ public final class LikenessPound {
         int sum = sums.highestWithin(space, k);
         clearRow(careerRow);
         sums.addFirst(world.colony, sum, careerRow);
-        careerTold = true;
+        careerDeeds = world.colony.deeds;
         return weight + sum;
     }
 
     public int careerOf(int d) {
-        return isDeed(d) && careerTold ? careerRow[d] : NONE;
+        return d >= 0 && d < careerDeeds ? careerRow[d] : NONE;
     }
 
     public int hide(int m) {

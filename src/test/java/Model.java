@@ -905,8 +905,7 @@ final class Model {
     Map<List<Integer>, Long> ways = new HashMap<>();
     long rows = rows(0, two.get(0), two.get(1), ways);
     if (rows > 0) {
-      int[] best = smallest(0, two.get(0), two.get(1), new HashMap<>());
-      mayRow = Arrays.copyOf(best, 10);
+      mayRow = smallest(0, two.get(0), two.get(1), new HashMap<>());
     }
     return rows;
   }
@@ -964,7 +963,7 @@ final class Model {
   }
 
   int mayBe(int d) {
-    return isDeed(d) && mayRow != null ? mayRow[d] : NONE;
+    return mayRow != null && d >= 0 && d < mayRow.length ? mayRow[d] : NONE;
   }
 
   int[] bestCareer;
@@ -976,7 +975,7 @@ final class Model {
     }
     bestCareer = null;
     bestWeight = -1;
-    tryCareer(m, k, 0, s.weight(m), new int[10]);
+    tryCareer(m, k, 0, s.weight(m), new int[s.deeds.size()]);
     careerRow = bestCareer;
     return bestWeight;
   }
@@ -1001,7 +1000,7 @@ final class Model {
   }
 
   int careerOf(int d) {
-    return isDeed(d) && careerRow != null ? careerRow[d] : NONE;
+    return careerRow != null && d >= 0 && d < careerRow.length ? careerRow[d] : NONE;
   }
 
   int hide(int m) {

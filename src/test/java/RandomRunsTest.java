@@ -347,9 +347,7 @@ public final class RandomRunsTest {
         break;
       case 21: return saidToo();
       case 22:
-        same("mayBe(" + d + ")", x.mayBe(d), y.mayBe(d));
-        same("careerOf(" + d + ")", x.careerOf(d), y.careerOf(d));
-        return 2;
+        return rowsToo();
       default: same("count(" + d + ")", x.count(d), y.count(d));
     }
     return 1;
@@ -377,19 +375,21 @@ public final class RandomRunsTest {
     StringBuilder t = new StringBuilder().append((char) white).append((char) dark);
     int n = put(r(10) == 0 ? t.append('x').substring(r(3), 3) : t.toString());
     same("may()", x.may(), y.may());
-    for (int d = -1; d < 11; d++) {
-      same("mayBe(" + d + ")", x.mayBe(d), y.mayBe(d));
-    }
-    return n + 13;
+    return n + 1 + rowsToo();
   }
 
   private int careerToo(int m) {
     int k = r(6) == 0 ? r(13) - 1 : r(5);
     same("career(" + m + ", " + k + ")", x.career(m, k), y.career(m, k));
+    return 1 + rowsToo();
+  }
+
+  private int rowsToo() {
     for (int d = -1; d < 11; d++) {
+      same("mayBe(" + d + ")", x.mayBe(d), y.mayBe(d));
       same("careerOf(" + d + ")", x.careerOf(d), y.careerOf(d));
     }
-    return 13;
+    return 24;
   }
 
   private int captionToo(int m) {

@@ -5,8 +5,10 @@ public final class SearchTest {
     helpOfLenders();
     may();
     mayEdges();
+    mayOfAnotherColony();
     career();
     careerEdges();
+    careerOfAnotherColony();
     hide();
     Checks.finish("SearchTest");
   }
@@ -124,6 +126,30 @@ public final class SearchTest {
     row(y, 6, 8, 1, 1);
   }
 
+  /** What may() told is of the colony that was then, whatever colony comes afterwards. */
+  private static void mayOfAnotherColony() {
+    LikenessPound x = Checks.with("");
+    Checks.due("a row without deeds", mayOf(x, 0, 0), 1);
+    row(x);
+    Checks.colony(x, "deed a good 2;deed b crime 3;deed c good 5;");
+    row(x);
+    Checks.due("two and three", mayOf(x, 2, 3), 1);
+    row(x, 1, 1, 0);
+    x.image(0);
+    Checks.colony(x, "deed a good 7;");
+    row(x, 1, 1, 0);
+    Checks.due("no rows", mayOf(x, 1, 0), 0);
+    row(x, 1, 1, 0);
+    Checks.due("a row of one deed", mayOf(x, 14, 0), 1);
+    row(x, 2);
+    x.restore(0);
+    row(x, 2);
+    Checks.colony(x, "");
+    row(x, 2);
+    mayOf(x, 0, 0);
+    row(x);
+  }
+
   private static void careers(LikenessPound x, int... due) {
     for (int d = 0; d < due.length; d++) {
       Checks.due("careerOf(" + d + ")", x.careerOf(d), due[d]);
@@ -174,6 +200,28 @@ public final class SearchTest {
     LikenessPound z = Checks.with("man a 1;deed p good 1;did a p 5;plate 5;");
     Checks.due("just full", z.career(0, 5), 5);
     careers(z, 0);
+  }
+
+  /** What career() told is of the colony that was then, whatever colony comes afterwards. */
+  private static void careerOfAnotherColony() {
+    LikenessPound x = Checks.with("man a 1;");
+    Checks.due("without deeds", x.career(0, 3), 0);
+    careers(x);
+    Checks.colony(x, "man a 1;deed p good 5;deed q crime 4;deed r good 1;plate 9;");
+    careers(x);
+    Checks.due("p and q", x.career(0, 3), 9);
+    careers(x, 1, 1, 0);
+    x.image(1);
+    Checks.colony(x, "man a 1;deed p good 8;plate 30;");
+    careers(x, 1, 1, 0);
+    Checks.due("no such man", x.career(1, 3), -1);
+    careers(x, 1, 1, 0);
+    Checks.due("p thrice", x.career(0, 10), 24);
+    careers(x, 3);
+    x.restore(1);
+    careers(x, 3);
+    Checks.colony(x, "");
+    careers(x, 3);
   }
 
   private static void hide() {
