@@ -1,17 +1,25 @@
 import java.util.NoSuchElementException;
+import java.util.function.IntSupplier;
+import java.util.function.IntUnaryOperator;
 
 /** What the project's tests share: texts put on the tape, answers held against those that are due. */
 final class Checks {
   private static int wrong = 0;
   private static int held = 0;
+  private static String sentence = "";
 
   private Checks() {}
+
+  /** The document's words that the answers below are held against; they are told with each that is not as due. */
+  static void about(String words) {
+    sentence = "[" + words + "] ";
+  }
 
   static void due(String what, long got, long want) {
     held++;
     if (got != want) {
       wrong++;
-      System.out.println(what + " answered " + got + ", due is " + want);
+      System.out.println(sentence + what + " answered " + got + ", due is " + want);
     }
   }
 
@@ -42,7 +50,78 @@ final class Checks {
       if (x.feed(five[0], five[1], five[2], five[3], five[4]) == LikenessPound.NONE) {
         throw new IllegalStateException("the text does not fit");
       }
-      x.end(Math.min(had + text.length(), x.count(4)));
+    }
+    x.end(had + text.length());
+  }
+
+  /** Some WORD, sign or blank so many times. */
+  static String times(String part, int n) {
+    return part.repeat(n);
+  }
+
+  /** All that is so, as the calls that only tell show it: it must be the same behind a call that is refused. */
+  static String shown(LikenessPound x) {
+    StringBuilder all = new StringBuilder();
+    int men = x.count(0);
+    int deeds = x.count(1);
+    row(all, "count", 4, x::count);
+    row(all, "now", 8, x::now);
+    for (int m = 0; m < men; m++) {
+      int who = m;
+      row(all, "man " + m, 8, what -> x.man(who, what));
+      row(all, "kept " + m, 4, what -> x.kept(who, what));
+      row(all, "did " + m, deeds, d -> x.did(who, d));
+      row(all, "owes " + m, men, k -> x.owes(who, k));
+    }
+    row(all, "kin", men, x::kin);
+    for (int d = 0; d < deeds; d++) {
+      int which = d;
+      row(all, "deed " + d, 3, what -> x.deed(which, what));
+    }
+    row(all, "said", men + 1, k -> x.said(k - 1));
+    return all.toString();
+  }
+
+  /** A call, and what it answers where it is refused. */
+  static final class Refusal {
+    private final String call;
+    private final IntSupplier of;
+    private final int answer;
+
+    private Refusal(String call, IntSupplier of, int answer) {
+      this.call = call;
+      this.of = of;
+      this.answer = answer;
+    }
+  }
+
+  static Refusal call(String call, IntSupplier of, int answer) {
+    return new Refusal(call, of, answer);
+  }
+
+  /** Calls that are refused: what each answers, and that all stays as it is. */
+  static void refused(LikenessPound x, Refusal... calls) {
+    String shown = shown(x);
+    for (Refusal refusal : calls) {
+      due(refusal.call, refusal.of.getAsInt(), refusal.answer);
+    }
+    dueText("what is so behind " + calls[calls.length - 1].call, shown(x), shown);
+  }
+
+  /** What other calls told last, but for fault(). */
+  static String toldLast(LikenessPound x) {
+    StringBuilder all = new StringBuilder("helping " + x.helping());
+    row(all, "mayBe", 4, x::mayBe);
+    row(all, "careerOf", 4, x::careerOf);
+    row(all, "told", 4, x::told);
+    row(all, "byteAt", 20, x::byteAt);
+    return all.toString();
+  }
+
+  private static void row(StringBuilder all, String name, int n, IntUnaryOperator of) {
+    all.append(' ').append(name).append(':');
+    for (int i = 0; i < n; i++) {
+      all.append(' ').append(of.applyAsInt(i));
     }
   }
 
@@ -84,7 +163,7 @@ final class Checks {
     held++;
     if (!got.equals(want)) {
       wrong++;
-      System.out.println(what + " is '" + got + "', due is '" + want + "'");
+      System.out.println(sentence + what + " is '" + got + "', due is '" + want + "'");
     }
   }
 
