@@ -228,7 +228,7 @@ public final class RandomRunsTest {
     }
     if (k < 6) {
       int n = put(hurt(bookText(), 3, 400));
-      int lives = r(20) == 0 ? r(5) - 2 : r(2);
+      int lives = r(60) == 0 ? any() : r(20) == 0 ? r(5) - 2 : r(2);
       same("book(" + lives + ")", x.book(lives), y.book(lives));
       if (y.tape.size() > 0) {
         x.end(0);
@@ -260,18 +260,24 @@ public final class RandomRunsTest {
   }
 
   private int m() {
-    return r(15) == 0 ? r(12) - 3 : r(Math.max(1, Math.min(7, men)));
+    return r(60) == 0 ? any() : r(15) == 0 ? r(12) - 3 : r(Math.max(1, Math.min(7, men)));
   }
 
   private int d() {
-    return r(15) == 0 ? r(15) - 3 : r(Math.max(1, Math.min(10, deeds)));
+    return r(60) == 0 ? any() : r(15) == 0 ? r(15) - 3 : r(Math.max(1, Math.min(10, deeds)));
+  }
+
+  /** Any int, the lowest and the highest among them. */
+  private int any() {
+    int k = r(4);
+    return k == 0 ? Integer.MIN_VALUE : k == 1 ? Integer.MAX_VALUE : random.nextInt();
   }
 
   private int changeStep() {
     int m = m();
     int k = m();
     int d = d();
-    int n = r(10) == 0 ? r(50) - 4 : 1 + r(40);
+    int n = r(40) == 0 ? any() : r(10) == 0 ? r(50) - 4 : 1 + r(40);
     switch (r(12)) {
       case 0: case 1: case 2: same("act(" + m + ", " + d + ")", x.act(m, d), y.act(m, d)); break;
       case 3: case 4: same("lend(" + m + ", " + k + ", " + d + ")", x.lend(m, k, d), y.lend(m, k, d)); break;
@@ -280,7 +286,7 @@ public final class RandomRunsTest {
       case 7: same("pay(" + m + ", " + k + ", " + n + ")", x.pay(m, k, n), y.pay(m, k, n)); break;
       case 8: same("sit(" + m + ")", x.sit(m), y.sit(m)); break;
       case 9:
-        int years = r(4) == 0 ? r(34) - 1 : longLived ? 30 : 1 + r(4);
+        int years = r(40) == 0 ? any() : r(4) == 0 ? r(34) - 1 : longLived ? 30 : 1 + r(4);
         same("years(" + years + ")", x.years(years), y.years(years));
         break;
       case 10:
@@ -294,7 +300,7 @@ public final class RandomRunsTest {
   }
 
   private int rareStep() {
-    int k = r(4) - 1;
+    int k = r(30) == 0 ? any() : r(4) - 1;
     switch (r(4)) {
       case 0: same("image(" + k + ")", x.image(k), y.image(k)); break;
       case 1:
@@ -303,7 +309,7 @@ public final class RandomRunsTest {
         }
         break;
       default:
-        int n = r(3) == 0 ? r(34) - 1 : 1 + r(3);
+        int n = r(30) == 0 ? any() : r(3) == 0 ? r(34) - 1 : 1 + r(3);
         int seed = random.nextInt();
         same("drawn(" + n + ", " + seed + ")", x.drawn(n, seed), y.drawn(n, seed));
     }
@@ -321,7 +327,7 @@ public final class RandomRunsTest {
       case 3: same("owes", x.owes(m, k), y.owes(m, k)); break;
       case 4: same("kin", x.kin(m), y.kin(m)); break;
       case 5:
-        int c = r(210) - 5;
+        int c = r(30) == 0 ? any() : r(210) - 5;
         same("cell(" + m + ", " + c + ")", x.cell(m, c), y.cell(m, c));
         break;
       case 6: same("kept(" + m + ", " + k + ")", x.kept(m, k), y.kept(m, k)); break;
@@ -342,7 +348,7 @@ public final class RandomRunsTest {
       case 18: same("heaviest()", x.heaviest(), y.heaviest()); break;
       case 19: return captionToo(m);
       case 20:
-        int n = r(8) == 0 ? r(34) - 1 : 1 + r(6);
+        int n = r(30) == 0 ? any() : r(8) == 0 ? r(34) - 1 : 1 + r(6);
         int seed = r(4) == 0 ? Integer.MAX_VALUE - r(3) : random.nextInt();
         same("odds(" + m + ", " + n + ", " + seed + ")", x.odds(m, n, seed), y.odds(m, n, seed));
         break;
@@ -380,7 +386,7 @@ public final class RandomRunsTest {
   }
 
   private int careerToo(int m) {
-    int k = r(6) == 0 ? r(13) - 1 : r(5);
+    int k = r(30) == 0 ? any() : r(6) == 0 ? r(13) - 1 : r(5);
     same("career(" + m + ", " + k + ")", x.career(m, k), y.career(m, k));
     return 1 + rowsToo();
   }
